@@ -204,9 +204,6 @@ public final class ThreeSizes {
     }
 
     public int letter(int kind, int which, int k) {
-        if (k < 0 || k >= Tokens.NAME_LETTERS) {
-            return NONE;
-        }
         int name = nameOf(kind, which);
         return name == 0 ? NONE : Tokens.letterOf(name, k);
     }
@@ -835,6 +832,7 @@ public final class ThreeSizes {
             }
         }
 
+        /** 0 behind the name; NONE where no name has a letter. */
         static int letterOf(int name, int k) {
             return k >= 0 && k < NAME_LETTERS ? name / PLACES[k] % 27 : NONE;
         }
@@ -1829,25 +1827,19 @@ public final class ThreeSizes {
             }
         }
 
-        /** All weights of a pair being kept. */
+        /** All weights of a pair being kept, whichever of the box it is. */
         long keptOf(int bits) {
             long kept = 0;
             for (int gap = 0; gap < GAPS; gap++) {
-                if (byGap[gap] > 0) {
-                    kept += byGap[gap] * mostPleases(bits, gap);
+                int most = 0;
+                for (int pair = 0; pair < FEET; pair++) {
+                    if (isInBox(bits, pair)) {
+                        most = Math.max(most, pleasesBy(pair, gap));
+                    }
                 }
+                kept += byGap[gap] * most;
             }
             return kept * honest;
-        }
-
-        private int mostPleases(int bits, int gap) {
-            int most = 0;
-            for (int pair = 0; pair < FEET; pair++) {
-                if (isInBox(bits, pair)) {
-                    most = Math.max(most, pleasesBy(pair, gap));
-                }
-            }
-            return most;
         }
 
         /** What is thought behind something that has these weights, 10000 together. */

@@ -335,8 +335,20 @@ public final class AgainstPlainTest {
         return oneOf(30) ? 25 + below(30) : oneOf(5) ? 30 + below(20) : 38 + below(5);
     }
 
+    /** Much in stock and much kept, so that people become alike and lasts are learnt. */
+    private String richText() {
+        StringBuilder text = new StringBuilder("last a price 90 runs 20 60 20;last b price 50 runs 30 40 30;"
+                + "sort s off 10 20 40 20 10 wear 0 grow 10 leave 1;sort t off 0 30 30 30 10 wear 20 grow 40 leave 2;"
+                + "keeps 20 50 90 60 30;fare 5;wipe 2;ask q 0 10 50 90 100;ask r 90 50 10 0 0;");
+        for (int size = 36; size <= 44; size++) {
+            text.append("stock a ").append(size).append(" 30;stock b ").append(size).append(" ")
+                    .append(oneOf(3) ? 1 : 20).append(";");
+        }
+        return text.toString();
+    }
+
     private void live() {
-        readHouse(cut(houseText()));
+        readHouse(cut(oneOf(3) ? richText() : houseText()));
         int calls = 100 + below(200);
         for (int i = 0; i < calls && !apart; i++) {
             if (plain.shop.lasts.isEmpty() || oneOf(120)) {
@@ -408,6 +420,15 @@ public final class AgainstPlainTest {
         same("best " + p + " " + l + " mean", sizes.best(p, l, true), plain.best(p, l, true));
     }
 
+    private int withBox(int person) {
+        for (int i = 0; i < plain.people.size() && !oneOf(20); i++) {
+            if (!plain.people.get(i).box.isEmpty() && oneOf(2)) {
+                return i;
+            }
+        }
+        return person;
+    }
+
     private void callMove() {
         int p = person();
         int l = last();
@@ -421,6 +442,7 @@ public final class AgainstPlainTest {
                 break;
             case 2:
             case 3:
+                p = withBox(p);
                 same("back(" + p + ", " + e + ")", sizes.back(p, e), plain.back(p, e));
                 look(p);
                 break;

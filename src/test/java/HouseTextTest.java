@@ -254,6 +254,19 @@ public final class HouseTextTest {
         Due.is("none came back", x.who(0, 2), 0);
         x.days(7);
         Due.is("nothing of the old house comes", x.stock(0, 40), 0);
+        x.days(1);
+        x.draw(2);
+        Due.is("a third one", Due.house(x, LAST_A), 1);
+        for (int what = 1; what <= 10; what++) {
+            Due.is("third house has(" + what + ")", x.has(what), what == 3 ? 1 : 0);
+        }
+        Due.is("its truth", x.truth(0), -1);
+        Due.is("its stock", x.stock(0, 40) + x.stock(0, 41), 0);
+        x.days(7);
+        Due.is("nothing comes to it", x.stock(0, 40), 0);
+        Due.house(x, LAST_A + SORT_S);
+        x.person(0, 40);
+        Due.is("nothing pleases", x.keeps(0, 0, 4, 0), 0);
         Due.is("an empty house", x.house(), 0);
         Due.is("it has no lasts", x.has(0), 0);
         Due.is("it has no people", x.has(4), 0);

@@ -5,11 +5,16 @@ public final class LearntTest {
 
     public static void main(String[] args) {
         prints();
+        printsFrom6000();
         alikes();
+        alikeByLastAndSize();
         strangersTell();
         mostOften();
+        strangersAtTheEdges();
         holds();
+        holdsWithinReach();
         years();
+        twentyPeople();
         Due.rest("LearntTest");
     }
 
@@ -29,6 +34,22 @@ public final class LearntTest {
         x.send(0, 0, 4);
         x.back(0, 0);
         Due.is("learnt: 9000 to 1000", x.print(0), -1);
+    }
+
+    private static void printsFrom6000() {
+        ThreeSizes x = Due.with("last a price 1 runs 0 100 0;");
+        int[][] runs = {{5999, 4001, 0, 0}, {6000, 4000, 0, -1}, {0, 4001, 5999, 0}, {0, 4000, 6000, 1}};
+        for (int[] row : runs) {
+            byte[] image = new byte[8];
+            for (int i = 0; i < 3; i++) {
+                image[1 + 2 * i] = (byte) (row[i] >> 8);
+                image[2 + 2 * i] = (byte) row[i];
+            }
+            image[7] = (byte) ImageTest.check(image, 7);
+            Due.tape(x, image);
+            Due.is("on()", x.on(), true);
+            Due.is("print of " + row[0] + ", " + row[2], x.print(0), row[3]);
+        }
     }
 
     private static void keep(ThreeSizes x, int person, int last, int e) {
@@ -74,6 +95,24 @@ public final class LearntTest {
         Due.is("a box sent back whole changes nothing", x.alike(0, 2), 0);
     }
 
+    private static void alikeByLastAndSize() {
+        ThreeSizes x = Due.with(HOUSE + stock("a", 36, 44) + stock("b", 36, 44));
+        x.person(0, 40);
+        x.person(0, 42);
+        keep(x, 0, 1, -2);
+        keep(x, 1, 0, 1);
+        Due.is("38 of b, 43 of a", x.alike(0, 1), 0);
+        Due.is("43 of a, 38 of b", x.alike(1, 0), 0);
+        keep(x, 1, 1, -2);
+        keep(x, 0, 1, 0);
+        Due.is("40 of b, its own 2 below", x.alike(1, 0), 1);
+        x.person(0, 42);
+        x.person(0, 43);
+        keep(x, 2, 0, 2);
+        keep(x, 3, 0, 1);
+        Due.is("44 of a, the one's 2 above", x.alike(2, 3), 1);
+    }
+
     private static void strangersTell() {
         ThreeSizes x = Due.with(HOUSE + stock("a", 36, 44) + stock("b", 36, 44));
         x.person(0, 40);
@@ -116,6 +155,23 @@ public final class LearntTest {
         Due.is("one's own do not count", x.strangers(0, 1), 39);
     }
 
+    private static void strangersAtTheEdges() {
+        ThreeSizes x = Due.with(HOUSE + stock("a", 30, 32) + stock("b", 30, 30) + stock("b", 49, 49)
+                + stock("a", 47, 49));
+        x.person(0, 30);
+        x.person(0, 30);
+        keep(x, 0, 0, 1);
+        keep(x, 1, 0, 1);
+        keep(x, 1, 1, 0);
+        Due.is("30", x.strangers(0, 1), 30);
+        x.person(0, 49);
+        x.person(0, 49);
+        keep(x, 2, 0, -1);
+        keep(x, 3, 0, -1);
+        keep(x, 3, 1, 0);
+        Due.is("49", x.strangers(2, 1), 49);
+    }
+
     private static void holds() {
         ThreeSizes x = Due.with("last a price 100 runs 0 100 0;sort s off 0 0 100 0 0 wear 0 grow 0 leave 50;"
                 + "sort t off 0 0 0 100 0 wear 0 grow 0 leave 0;keeps 0 10 80 20 0;fare 1;"
@@ -148,6 +204,32 @@ public final class LearntTest {
         Due.is("two are in stock", y.hold(0, 40), -1);
         y.send(0, 0, 4);
         Due.is("one is, but its person has a box", y.hold(0, 40), -1);
+    }
+
+    private static void holdsWithinReach() {
+        ThreeSizes x = Due.with("last a price 100 runs 0 100 0;sort s off 0 0 100 0 0 wear 0 grow 0 leave 0;"
+                + "keeps 20 0 0 0 10;stock a 40 1;");
+        x.person(0, 37);
+        x.person(0, 43);
+        Due.is("off by 3", x.hold(0, 40), -1);
+        x.person(0, 38);
+        Due.is("2 above what is asked", x.hold(0, 40), 2);
+        x.person(0, 42);
+        Due.is("2 below what is asked", x.hold(0, 40), 3);
+    }
+
+    private static void twentyPeople() {
+        ThreeSizes x = Due.with(HOUSE + stock("a", 36, 44) + "stock b 40 1;");
+        for (int i = 0; i < 20; i++) {
+            x.person(0, 40);
+        }
+        keep(x, 0, 0, 0);
+        keep(x, 19, 0, 0);
+        Due.is("a year of 20", x.year(), 20);
+        Due.is("strangers of 20", x.strangers(0, 0), 40);
+        Due.is("hold of 20", x.hold(1, 40) >= 0, true);
+        Due.is("draws", x.draw(1), 22);
+        Due.is("boxes", x.has(8), 0);
     }
 
     private static void years() {

@@ -180,5 +180,8 @@ public final class TruthTest {
         Due.is("7374 of 5000", x.trial(0, 0, 0), 5);
         Due.is("5249 of 5000", x.trial(0, 0, 0), 5);
         Due.is("3520 of 5000", x.trial(0, 0, 0), 2);
+        // Seed 8727: the third draw is 5000, which is not below its chance.
+        x.draw(8727);
+        Due.is("5000 of 5000", x.trial(0, 0, 0), 5);
     }
 }
