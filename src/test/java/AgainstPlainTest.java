@@ -4,14 +4,19 @@ import java.util.Random;
 
 /** All promises: random runs of calls, answered by the program and by the plain model alike. */
 public final class AgainstPlainTest {
-    private static final int RUNS = 1500;
+    private static final int RUNS = 3000;
     private static final int TEXTS = 30000;
+    /** Nothing is promised of an object's 513th call: no run goes on behind this many, but to end what it is at. */
+    private static final int ENOUGH = 400;
+    private static final int LAST_LOOKS = 485;
+    private static final int PROMISED = 512;
 
     private final Random random;
     private final ThreeSizes sizes = new ThreeSizes();
     private final PlainModel plain = new PlainModel();
     private final List<String> told = new ArrayList<>();
     private boolean apart;
+    private int called;
 
     private AgainstPlainTest(long seed) {
         random = new Random(seed);
@@ -28,7 +33,9 @@ public final class AgainstPlainTest {
         }
         AgainstPlainTest texts = new AgainstPlainTest(from);
         for (int i = 0; i < TEXTS * times && !texts.apart; i++) {
-            texts.told.clear();
+            if (texts.called > ENOUGH) {
+                texts = new AgainstPlainTest(from + i);
+            }
             texts.readText();
         }
         wrong += texts.report(from);
@@ -40,6 +47,10 @@ public final class AgainstPlainTest {
     }
 
     private int report(long seed) {
+        if (called > PROMISED) {
+            System.out.println("seed " + seed + " made " + called + " calls of one object");
+            return 1;
+        }
         if (!apart) {
             return 0;
         }
@@ -51,6 +62,7 @@ public final class AgainstPlainTest {
     }
 
     private boolean same(String call, long got, long want) {
+        called++;
         told.add(call + " = " + got + (got == want ? "" : ", the model says " + want));
         if (got != want) {
             apart = true;
@@ -350,7 +362,7 @@ public final class AgainstPlainTest {
     private void live() {
         readHouse(cut(oneOf(3) ? richText() : houseText()));
         int calls = 100 + below(200);
-        for (int i = 0; i < calls && !apart; i++) {
+        for (int i = 0; i < calls && !apart && called < ENOUGH; i++) {
             if (plain.shop.lasts.isEmpty() || oneOf(120)) {
                 readHouse(cut(oneOf(3) ? spoilt(houseText()) : houseText()));
             } else if (plain.people.size() < 3) {
@@ -359,7 +371,7 @@ public final class AgainstPlainTest {
                 call();
             }
         }
-        for (int i = 0; i < plain.people.size() && !apart; i++) {
+        for (int i = 0; i < plain.people.size() && !apart && called < LAST_LOOKS; i++) {
             look(i);
         }
     }
