@@ -226,13 +226,14 @@ public final class BoxEdgesTest {
                 int[] runs = new int[3];
                 person[d + 4] = 10000;
                 runs[r + 1] = 10000;
-                ThreeSizes x = Due.with(last("a", 1) + S + "keeps 11 22 33 44 55;");
+                ThreeSizes x = Due.with(last("a", 100) + S + "keeps 11 22 33 44 55;");
                 Due.think(x, new int[][] {person}, new int[][] {runs});
                 for (int e = -2; e <= 2; e++) {
                     int tooLarge = e + r - d;
                     long due = tooLarge < -2 || tooLarge > 2 ? 0 : pleases[tooLarge + 2] * ALL / 100;
                     Due.is("kept, e " + e + " r " + r + " d " + d, x.keeps(0, 0, 1 << e + 2, e), due);
                     Due.is("none, e " + e + " r " + r + " d " + d, x.keeps(0, 0, 1 << e + 2, 3), ALL - due);
+                    Due.is("mean, e " + e + " r " + r + " d " + d, x.mean(0, 0, 1 << e + 2, false), due * 10000 / ALL);
                 }
             }
         }

@@ -498,7 +498,13 @@ public final class HouseEdgesTest {
             Due.is("whole", x.send(0, 0, 8) == 1 && x.back(0, 3), true);
             Due.is("nothing earned by none", x.earned(), 0);
             x.draw(1);
-            x.days(3);
+            Due.is("a week", x.days(7), 7);
+            Due.is("its own comes, not those of the houses ahead", x.stock(0, 41), 1);
+            Due.is("nor of 39", x.stock(0, 39) + x.stock(0, 40), 0);
+            Due.is("none is on its way", x.has(10), 0);
+            x.send(0, 0, 8);
+            x.back(0, 3);
+            Due.is("one is", x.has(10), 1);
             Due.house(x, "last z price 1 runs 0 0 0;ask y 1 1 1 1 1;fare 9;wipe 9;fee 9;keeps 9 9 9 9 9;stock z 40 9;?");
         }
     }

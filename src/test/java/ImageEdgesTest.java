@@ -120,6 +120,23 @@ public final class ImageEdgesTest {
         Due.is("13 of 27", x.end(13), true);
         Due.is("'fee 12;fee 3;'", x.house(), 2);
         Due.is("fee 3", x.has(7), 3);
+        // Bytes behind the cut go on with a word, a number, a blank, a statement: they are not there.
+        String[] texts = {"fee 1", "fe", "last a", "last abcdef", "fare 1234", "fee 12", "fee 1;fee 1", "fee 1;f"};
+        String[] behind = {"2;", "e 1;", "b price 1 runs 0 0 0;", "g", "5;", " ;", ";", "ee 1;"};
+        int[] places = {5, 0, 6, 11, 9, 6, 11, 6};
+        for (int i = 0; i < texts.length; i++) {
+            ThreeSizes y = new ThreeSizes();
+            Due.tape(y, texts[i] + behind[i]);
+            Due.is("cut", y.end(texts[i].length()), true);
+            Due.is("'" + texts[i] + "' ahead of '" + behind[i] + "'", y.house(), -1);
+            Due.is("its fault", y.fault(0), 1);
+            Due.is("its place", y.fault(1), places[i]);
+        }
+        ThreeSizes y = new ThreeSizes();
+        Due.tape(y, "fee 1;fee 2; fee 3;");
+        Due.is("cut", y.end(6), true);
+        Due.is("one alone", y.house(), 1);
+        Due.is("fee 1", y.has(7), 1);
     }
 
     /** "Twenty bytes come behind those on the tape, of each number the highest first" */

@@ -139,6 +139,11 @@ public final class LearntEdgesTest {
         x = Due.with("last a price 1 runs 0 0 0;" + S + KEEPS + "stock a 41 1;ask q 0 0 0 1 0;");
         Due.think(x, new int[][] {{0, 40, 0, 0, 9999, 1, 0}}, new int[][] {{0, 10000, 0}});
         Due.is("rounded down above 0", x.worth(0, 0, 0), 0);
+        // Behind yes 0.49, behind no 0.50: (49 + 999999 * 50) / 10 to the 6 is one of 10 to the 6 below 50; now 0.499999.
+        x = Due.with(A + "sort s off 0 0 0 0 0 wear 99 grow 0 leave 0;keeps 0 49 50 0 0;stock a 40 1;ask q 0 0 0 1 0;");
+        Due.think(x, new int[][] {{0, 40, 0, 0, 9999, 1, 0}}, new int[][] {{0, 10000, 0}});
+        Due.is("now", x.best(0, 0, true), 49);
+        Due.is("rounded down just below a whole number", x.worth(0, 0, 0), 0);
     }
 
     /** WORTH where nothing is to be rounded */

@@ -266,6 +266,19 @@ public final class RuleEdgesTest {
         fails("2 = 3");
         holds("3 = 3");
         fails("4 = 3");
+        for (String fact : new String[] {"2 < 3", "4 > 3", "3 = 3", "all", "[all]", "not 3 < 3", "not 3 > 3", "not 3 = 4"}) {
+            holds(fact + " and all");
+            holds("all and " + fact);
+            holds(fact + " and " + fact);
+            holds(fact + " or not all");
+            holds("not all or " + fact);
+            holds(fact + " or all");
+            fails("not " + fact);
+            fails(fact + " and not all");
+            fails("not all and " + fact);
+            fails("not " + fact + " or not all");
+            holds("not not " + fact);
+        }
         refused(1, "send up when 1 <^= 2;");
         refused(1, "send up when 1 <^> 2;");
         refused(1, "send up when 1 =^= 2;");
